@@ -579,32 +579,24 @@ public final class NotAnOx {
         void open() {
             inBook = 0;
             checked = 0;
-            for (int v = 0; v < MOST_VILLAGES; v++) {
-                oxen[v] = land.oxen[v];
-                written[v] = 0;
-            }
-            for (int p = 0; p < MOST_PARTIES; p++) {
-                place[p] = land.start[p];
-                days[p] = 0;
-            }
+            System.arraycopy(land.oxen, 0, oxen, 0, MOST_VILLAGES);
+            Arrays.fill(written, 0);
+            System.arraycopy(land.start, 0, place, 0, MOST_PARTIES);
+            Arrays.fill(days, 0);
         }
 
         void copyFrom(Book other) {
             copyEntries(other);
-            for (int p = 0; p < MOST_PARTIES; p++) {
-                place[p] = other.place[p];
-                days[p] = other.days[p];
-            }
+            System.arraycopy(other.place, 0, place, 0, MOST_PARTIES);
+            System.arraycopy(other.days, 0, days, 0, MOST_PARTIES);
         }
 
         /** Where no party goes anywhere, this is all that is needed. */
         void copyEntries(Book other) {
             inBook = other.inBook;
             checked = other.checked;
-            for (int v = 0; v < MOST_VILLAGES; v++) {
-                oxen[v] = other.oxen[v];
-                written[v] = other.written[v];
-            }
+            System.arraycopy(other.oxen, 0, oxen, 0, MOST_VILLAGES);
+            System.arraycopy(other.written, 0, written, 0, MOST_VILLAGES);
         }
 
         boolean holds(int v) {
@@ -650,15 +642,14 @@ public final class NotAnOx {
         }
 
         int swear(int v, int kind, int honestOnes) {
-            int number = sworn(v, kind, honestOnes);
+            written[v] = sworn(v, kind, honestOnes);
             int askedNear = land.near[v] & inBook;
             if (kind == MOVER && askedNear != 0) {
                 oxen[lowestOf(askedNear)] += oxen[v];
                 oxen[v] = 0;
             }
-            written[v] = number;
             inBook |= 1 << v;
-            return number;
+            return written[v];
         }
 
         int askBy(int p, int v) {
@@ -684,7 +675,7 @@ public final class NotAnOx {
         int found() {
             int sum = 0;
             for (int v = 0; v < land.villages; v++) {
-                sum += holds(v) ? written[v] : 0;
+                sum += (inBook >> v & 1) != 0 ? written[v] : 0;
             }
             return sum;
         }
@@ -938,8 +929,9 @@ public final class NotAnOx {
             }
             Book here = levels[depth];
             Book next = levels[depth + 1];
+            int rest = here.rest();
             for (int v = 0; v < land.villages; v++) {
-                if (!here.holds(v)) {
+                if ((rest >> v & 1) != 0) {
                     next.copyEntries(here);
                     next.swear(v, land.kind[v], land.honestOnes);
                     order[depth] = v;

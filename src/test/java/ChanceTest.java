@@ -90,6 +90,10 @@ public final class ChanceTest {
         // from now on: village 0 is asked from 1
         Due.due("from now on, found", x.shire(0, 1, 0), 20);
         Due.due("from now on, days", x.shire(0, 1, 1), 8);
+        NotAnOx s = Due.laid("v0,1;v0,2;v0,3;v0,4;v0,5;v0,6;v0,7;w0,2,1;w2,4,5;p0;p2;p0;");
+        // z 1, k 0: draw 11401: party 11401 mod 3 = 1, village 1425 mod 7 = 4
+        Due.due("one of seven, found", s.shire(1, 1, 0), 5);
+        Due.due("one of seven, days", s.shire(1, 1, 1), 6);
         NotAnOx y = Due.laid("v0,10;v1,21;p1;");
         Due.due("no way, not in the book", y.shire(0, 1, 0), 0);
         Due.due("no way, no days", y.shire(0, 1, 1), 0);
