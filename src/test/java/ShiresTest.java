@@ -151,6 +151,8 @@ public final class ShiresTest {
         Due.due("lay() without a party", Due.written("v0,1;").lay(), NO);
         Due.due("lay() of one", Due.written("v0,1;p0;").lay(), 1);
         Due.due("lay() of seven", Due.written("v0,1;v0,1;v0,1;v0,1;v0,1;v0,1;v0,1;p6;").lay(), 7);
+        NotAnOx seven = Due.laid("v0,1;v0,2;v0,3;v0,4;v0,5;v0,6;v0,7;p6;");
+        Due.due("oxen of seven", seven.count(5), 28);
         NotAnOx x = Due.written("v0,1;v2,50;p1;p0;w0,1,9;w1,0,4;");
         Due.due("lay() of two", x.lay(), 2);
         Due.due("count(0)", x.count(0), 2);
