@@ -633,7 +633,7 @@ public final class NotAnOx {
                 case WASTE:
                     return watched ? oxen[v] : 0;
                 case COPIER:
-                    return askedNear != 0 ? written[lowestOf(askedNear)] : oxen[v];
+                    return copied(v, lowestOf(askedNear));
                 case MOVER:
                     return askedNear != 0 ? 0 : oxen[v];
                 default:
@@ -641,11 +641,15 @@ public final class NotAnOx {
             }
         }
 
+        private int copied(int v, int from) {
+            return from != NONE ? written[from] : oxen[v];
+        }
+
         int swear(int v, int kind, int honestOnes) {
             written[v] = sworn(v, kind, honestOnes);
-            int askedNear = land.near[v] & inBook;
-            if (kind == MOVER && askedNear != 0) {
-                oxen[lowestOf(askedNear)] += oxen[v];
+            int goal = kind == MOVER ? lowestOf(land.near[v] & inBook) : NONE;
+            if (goal != NONE) {
+                oxen[goal] += oxen[v];
                 oxen[v] = 0;
             }
             inBook |= 1 << v;

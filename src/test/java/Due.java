@@ -18,6 +18,11 @@ final class Due {
         }
     }
 
+    /** Two looks at objects that should stand alike. */
+    static void same(String what, String got, String want) {
+        due(what + ":\n" + got + "\nis held against\n" + want + "\nalike", got.equals(want) ? 1 : 0, 1);
+    }
+
     static NotAnOx written(String text) {
         NotAnOx x = new NotAnOx();
         writeInto(x, text);

@@ -50,7 +50,10 @@ public final class PlainTest {
 
     private void due(String call, int got, int want) {
         calls++;
-        Due.due(run + calls + ": " + call, got, want);
+        // what an object answers behind its 512th call is free
+        if (calls <= CALLS) {
+            Due.due(run + calls + ": " + call, got, want);
+        }
     }
 
     /** One below and one above what there is are drawn now and then, too. */
