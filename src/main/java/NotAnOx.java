@@ -727,8 +727,8 @@ public final class NotAnOx {
         private int size;
 
         Pile(Land land, int most) {
-            books = new Book[most];
-            for (int i = 0; i < most; i++) {
+            books = new Book[Math.max(1, most)];
+            for (int i = 0; i < books.length; i++) {
                 books[i] = new Book(land);
             }
         }
